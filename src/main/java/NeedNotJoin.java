@@ -301,7 +301,7 @@ public final class NeedNotJoin {
             if (p == 2) {
                 return x ^ y;
             }
-            if (!isPrime(p)) {
+            if (p < 2) {
                 return 0;
             }
             int sum = 0;
@@ -318,7 +318,7 @@ public final class NeedNotJoin {
         }
 
         static int manifold(int p, int factor, int x) {
-            if (!isPrime(p)) {
+            if (p < 2) {
                 return 0;
             }
             int sum = 0;
@@ -336,20 +336,8 @@ public final class NeedNotJoin {
             return plus(p, x, manifold(p, p - 1, y));
         }
 
-        static int inverse(int p, int d) {
-            if (!isPrime(p)) {
-                return 0;
-            }
-            for (int e = 1; e < p; e++) {
-                if (d * e % p == 1) {
-                    return e;
-                }
-            }
-            return 0;
-        }
-
         static void unpack(int p, int x, int[] digits) {
-            if (!isPrime(p)) {
+            if (p < 2) {
                 return;
             }
             int rest = x;
@@ -437,21 +425,19 @@ public final class NeedNotJoin {
             return x >= 0 && x < order;
         }
 
-        boolean hasPlace(int i) {
-            return i >= 0 && i < size;
-        }
-
         boolean hasCell(int i, int j, int k) {
-            return hasPlace(i) && hasPlace(j) && hasPlace(k);
+            return i >= 0 && i < size && j >= 0 && j < size && k >= 0 && k < size;
         }
 
         int cell(int i, int j, int k) {
-            return hasCell(i, j, k) ? cells[25 * i + 5 * j + k] : 0;
+            int at = 25 * i + 5 * j + k;
+            return at >= 0 && at < CELLS ? cells[at] : 0;
         }
 
         void put(int i, int j, int k, int v) {
-            if (hasCell(i, j, k)) {
-                cells[25 * i + 5 * j + k] = v;
+            int at = 25 * i + 5 * j + k;
+            if (at >= 0 && at < CELLS) {
+                cells[at] = v;
                 failing = UNKNOWN;
             }
         }
@@ -476,8 +462,13 @@ public final class NeedNotJoin {
             for (int i = 0; i < size; i++) {
                 int factor = restX % prime;
                 restX /= prime;
-                if (factor != 0) {
-                    addRows(25 * i, factor, y);
+                int restY = factor == 0 ? 0 : y;
+                for (int j = 0; j < size && restY != 0; j++) {
+                    int both = factor * (restY % prime);
+                    restY /= prime;
+                    for (int k = 0; k < size && both != 0; k++) {
+                        sums[k] += both * cells[25 * i + 5 * j + k];
+                    }
                 }
             }
             int result = 0;
@@ -485,21 +476,6 @@ public final class NeedNotJoin {
                 result = result * prime + sums[k] % prime;
             }
             return result;
-        }
-
-        private void addRows(int start, int factor, int y) {
-            int rest = y;
-            for (int j = 0; j < size; j++) {
-                int both = factor * (rest % prime);
-                rest /= prime;
-                int at = start + 5 * j;
-                if (both == 0 || at < 0 || at + size > CELLS) {
-                    continue;
-                }
-                for (int k = 0; k < size; k++) {
-                    sums[k] += both * cells[at + k];
-                }
-            }
         }
 
         boolean commutes() {
@@ -746,7 +722,9 @@ public final class NeedNotJoin {
         private void statement() {
             boolean orders = isWord("order");
             boolean twists = isWord("twist");
-            boolean known = orders || twists || isWord("field") || isWord("at") || isWord("turn");
+            boolean fields = isWord("field");
+            boolean tellsRow = isWord("at");
+            boolean known = orders || twists || fields || tellsRow || isWord("turn");
             if (!known || orders != (statements == 0) || twists && !hasField) {
                 fail(1);
                 return;
@@ -756,22 +734,11 @@ public final class NeedNotJoin {
                 return;
             }
             statements++;
-            if (obey(orders, twists) && expect(STOP)) {
+            boolean isWell = orders ? order() : twists ? twist() : fields ? polynomials()
+                    : tellsRow ? row() : turning();
+            if (isWell && expect(STOP)) {
                 step();
             }
-        }
-
-        private boolean obey(boolean orders, boolean twists) {
-            if (orders) {
-                return order();
-            }
-            if (twists) {
-                return twist();
-            }
-            if (isWord("field")) {
-                return polynomials();
-            }
-            return isWord("at") ? row() : turning();
         }
 
         private boolean expect(int wanted) {
@@ -1039,9 +1006,11 @@ public final class NeedNotJoin {
 
         private void lead(int from) {
             int[] row = rows[from];
-            int factor = Sums.inverse(prime, next[from]);
+            int first = next[from];
+            // the inverse is the power to p - 2: for 2 and 3 each digit is its own
+            int inverse = prime == 5 ? first * first * first % prime : first;
             for (int c = 0; c < width; c++) {
-                row[c] = next[c] * factor % prime;
+                row[c] = next[c] * inverse % prime;
             }
             isLed[from] = true;
             rank++;
@@ -1069,18 +1038,10 @@ public final class NeedNotJoin {
 
         int failing(World w) {
             if (w.knownFailing() == World.UNKNOWN) {
-                w.learnFailing(findFailing(w));
+                int x = forms.leastSingular(w, LEFT);
+                w.learnFailing(x == NONE ? NONE : w.order() * x + leastToNought(w, x));
             }
             return w.knownFailing();
-        }
-
-        private int findFailing(World w) {
-            for (int x = 1; x < w.order(); x++) {
-                if (forms.rankOf(w, LEFT, x) < w.size()) {
-                    return w.order() * x + leastToNought(w, x);
-                }
-            }
-            return NONE;
         }
 
         private int leastToNought(World w, int x) {
@@ -1358,7 +1319,7 @@ public final class NeedNotJoin {
             this.echelon = echelon;
         }
 
-        int rankOf(World w, int side, int x) {
+        private int rankOf(World w, int side, int x) {
             int n = w.size();
             Sums.unpack(w.prime(), x, digits);
             echelon.start(w.prime(), n);
@@ -1389,16 +1350,31 @@ public final class NeedNotJoin {
             return sum;
         }
 
+        /** Multiples have like ranks, so elements whose highest digit is 1 stand for all their multiples. */
         private void countRanks(World w, int side, int[] into) {
             for (int r = 0; r < into.length; r++) {
                 into[r] = 0;
             }
-            for (int x = 1; x < w.order(); x++) {
-                int rank = rankOf(w, side, x);
-                if (rank >= 0 && rank < into.length) {
-                    into[rank]++;
+            for (int i = 0; i < w.size(); i++) {
+                for (int x = w.base(i); x < 2 * w.base(i); x++) {
+                    int rank = rankOf(w, side, x);
+                    if (rank >= 0 && rank < into.length) {
+                        into[rank] += w.prime() - 1;
+                    }
                 }
             }
+        }
+
+        /** Of an element's multiples the one whose highest digit is 1 is the least. */
+        int leastSingular(World w, int side) {
+            for (int i = 0; i < w.size(); i++) {
+                for (int x = w.base(i); x < 2 * w.base(i); x++) {
+                    if (rankOf(w, side, x) < w.size()) {
+                        return x;
+                    }
+                }
+            }
+            return NONE;
         }
 
         int howManyOfRank(World w, int side, int r) {
@@ -1411,12 +1387,7 @@ public final class NeedNotJoin {
             if (w.prime() == 2) {
                 return NONE;
             }
-            for (int a = 1; a < w.order(); a++) {
-                if (rankOf(w, BOTH, a) < w.size()) {
-                    return 0;
-                }
-            }
-            return 1;
+            return leastSingular(w, BOTH) == NONE ? 1 : 0;
         }
 
         int whatParts(World first, World second) {
@@ -1807,8 +1778,9 @@ public final class NeedNotJoin {
         }
 
         void bring(int p, int n, int i, World into) {
-            if (hasWorld(p, n, i) && i < MOST) {
-                fill(into, p, n, found[kindOf(p, n)][i]);
+            int kind = kindOf(p, n);
+            if (kind != NONE && i >= 0 && i < MOST) {
+                fill(into, p, n, found[kind][i]);
             }
         }
 
@@ -1827,16 +1799,31 @@ public final class NeedNotJoin {
                 return;
             }
             isSearched[kind] = true;
-            int codes = 1;
-            for (int digit = 0; digit < n * (n - 1) * (n - 1); digit++) {
-                codes *= p;
-            }
-            for (int code = 0; code < codes; code++) {
+            int lastRows = power(p, n * (n - 1));
+            int codes = power(p, n * (n - 1) * (n - 1));
+            int code = 0;
+            for (int turns = 0; turns < codes && code < codes; turns++) {
                 fill(candidate, p, n, code);
-                if (study.divides(candidate)) {
+                int failing = study.failing(candidate);
+                if (failing == NONE) {
                     note(kind, code);
                 }
+                code += isFailedEarly(failing) ? lastRows : 1;
             }
+        }
+
+        private static int power(int p, int times) {
+            int result = 1;
+            for (int i = 0; i < times; i++) {
+                result *= p;
+            }
+            return result;
+        }
+
+        /** An element without the highest digit fails whatever the lowest digits of the code tell. */
+        private boolean isFailedEarly(int failing) {
+            int order = candidate.order();
+            return failing != NONE && order > 0 && failing / order < candidate.base(candidate.size() - 1);
         }
 
         private void note(int kind, int code) {
