@@ -430,14 +430,15 @@ public final class NeedNotJoin {
         }
 
         int cell(int i, int j, int k) {
-            int at = 25 * i + 5 * j + k;
-            return at >= 0 && at < CELLS ? cells[at] : 0;
+            if (i < 0 || i >= size || j < 0 || j >= size || k < 0 || k >= size) {
+                return 0;
+            }
+            return cells[25 * i + 5 * j + k];
         }
 
         void put(int i, int j, int k, int v) {
-            int at = 25 * i + 5 * j + k;
-            if (at >= 0 && at < CELLS) {
-                cells[at] = v;
+            if (hasCell(i, j, k)) {
+                cells[25 * i + 5 * j + k] = v;
                 failing = UNKNOWN;
             }
         }
@@ -797,7 +798,7 @@ public final class NeedNotJoin {
             int power = 1;
             int top = world.base(n - 1);
             for (int degree = 0; degree <= 2 * n - 2; degree++) {
-                for (int i = 0; i <= degree && i < n; i++) {
+                for (int i = Math.max(0, degree - n + 1); i <= degree && i < n; i++) {
                     world.putRow(i, degree - i, power);
                 }
                 int over = top < 1 ? 0 : power / top;
