@@ -25,6 +25,8 @@ public final class BruteTest {
             }
         }
         special();
+        allOfFour();
+        parts();
         tripleLists();
         lists();
         Due.end();
@@ -127,6 +129,7 @@ public final class BruteTest {
         if (a.maps() <= 20) {
             Due.is("triples", x.of(w, 17), a.triples());
         }
+        Due.is("triples by rank", x.of(w, 17), a.triplesByRank());
         for (int side = 0; side < 3; side++) {
             int[] counts = a.ranks(side);
             for (int r = 0; r <= a.n; r++) {
@@ -148,12 +151,7 @@ public final class BruteTest {
     }
 
     private static void pairs(NeedNotJoin x, Brute a, Brute b) {
-        int parted = NO;
-        for (int side = 2; side >= 0; side--) {
-            parted = Arrays.equals(a.ranks(side), b.ranks(side)) ? parted : side;
-        }
-        int triples = x.of(0, 17) != x.of(1, 17) ? 3 : NO;
-        Due.is("parted", x.parted(0, 1), parted == NO ? triples : parted);
+        Due.is("parted", x.parted(0, 1), a.parted(b));
         if (a.maps() <= 70000) {
             Due.is("same", x.same(0, 1), a.same(b));
             Due.is("same as itself", x.same(0, 0), a.same(a));
@@ -227,6 +225,43 @@ public final class BruteTest {
         isotopes(x, 3, 0, got, a);
         isotopes(x, 0, 3, a, got);
         questions(x, 3, got);
+    }
+
+    /** All worlds of order 4. */
+    private static void allOfFour() {
+        for (int code = 0; code < 256; code++) {
+            NeedNotJoin x = new NeedNotJoin();
+            Due.text(x, 0, "order 2 2;");
+            for (int at = 0; at < 8; at++) {
+                x.digit(0, at / 4, at / 2 % 2, at % 2, code >> at & 1);
+            }
+            Brute a = read(x, 0);
+            Due.is("triples of code " + code, x.of(0, 17), a.triples());
+            questions(x, 0, a);
+        }
+    }
+
+    /** Sparse worlds of few digits, so that each kind of ranks parts some of them. */
+    private static void parts() {
+        int[] parted = new int[5];
+        for (int pair = 0; pair < 3000; pair++) {
+            NeedNotJoin x = new NeedNotJoin();
+            Brute[] both = new Brute[2];
+            for (int w = 0; w < 2; w++) {
+                Due.text(x, w, "order 2 3;");
+                for (int i = 0; i < 4; i++) {
+                    x.digit(w, RANDOM.nextInt(3), RANDOM.nextInt(3), RANDOM.nextInt(3), 1);
+                }
+                both[w] = read(x, w);
+            }
+            int due = both[0].parted(both[1]);
+            Due.is("parted", x.parted(0, 1), due);
+            parted[due + 1]++;
+        }
+        System.out.println("parted by nothing, 0, 1, 2, 3: " + Arrays.toString(parted));
+        for (int due = 0; due < 4; due++) {
+            Due.is("pairs parted by " + (due - 1), parted[due] > 0, true);
+        }
     }
 
     /** Triples of maps of two digits to the base of 3: too many to try them all for many worlds. */

@@ -23,6 +23,7 @@ public final class PromisesTest {
         powersAndSpans();
         unitals();
         acts();
+        manyActs();
         maps();
         sameness();
         planes();
@@ -160,6 +161,15 @@ public final class PromisesTest {
         fault(x, "Order 2 2;", 1, 0);
         fault(x, "orders 2 2;", 1, 0);
         fault(x, "orde 2 2;", 1, 0);
+        fault(x, "orderz 2 2;", 1, 0);
+        fault(x, "orderA 2 2;", 1, 0);
+        fault(x, "orderZ 2 2;", 1, 0);
+        fault(x, "order@ 2 2;", 1, 5);
+        fault(x, "order[ 2 2;", 1, 5);
+        fault(x, "order` 2 2;", 1, 5);
+        fault(x, "order{ 2 2;", 1, 5);
+        fault(x, "order/2 2;", 1, 5);
+        fault(x, "order:2 2;", 1, 5);
         fault(x, "field 1;", 1, 0);
         fault(x, "at 0 0 0;", 1, 0);
         fault(x, "turn 0;", 1, 0);
@@ -376,6 +386,14 @@ public final class PromisesTest {
         Due.is("8 noughts of 243", x.of(4, 16), 25);
         Due.is("8 noughts of 243", x.of(4, 17), 75);
         Due.is("8 noughts of 243", x.of(4, 9), 243);
+        Due.text(x, 5, "order 2 5; field 1 0 1 0 0;");
+        Due.is("8 field of 32, triples", x.of(5, 17), 10);
+        Due.text(x, 5, "order 3 5; field 2 1 0 0 0;");
+        Due.is("8 field of 243", x.of(5, 3), 1);
+        Due.is("8 field of 243, derivations", x.of(5, 16), 0);
+        Due.is("8 field of 243, triples", x.of(5, 17), 10);
+        Due.is("8 field of 243, centre", x.of(5, 12), 243);
+        Due.is("8 field of 243, squares", x.of(5, 15), 122);
         Due.text(x, 5, "order 3 2; field 1 1;");
         Due.is("8 planar", x.of(5, 14), 1);
         Due.is("8 not planar", x.of(4, 14), 0);
@@ -525,6 +543,25 @@ public final class PromisesTest {
         Due.is("18 acts", x.look(0), 19);
     }
 
+    /** Thirty worlds told one after the other: each of the last twenty comes back as it was. */
+    private static void manyActs() {
+        int[][] orders = {{2, 1}, {2, 2}, {2, 3}, {2, 4}, {2, 5}, {3, 1}, {3, 2}, {3, 3}, {3, 4}, {3, 5}};
+        NeedNotJoin x = new NeedNotJoin();
+        int[] was = new int[30];
+        for (int i = 0; i < 30; i++) {
+            int w = i % 3;
+            was[i] = x.of(w, 2) * 5 + x.cube(w, 0, 0, 0);
+            int[] order = orders[i * 7 % 10];
+            Due.text(x, w, "order " + order[0] + " " + order[1] + ";" + (i % 2 == 0 ? "" : "field 1 0 0 0 0"
+                .substring(0, 5 + 2 * order[1]) + ";"));
+        }
+        for (int i = 29; i >= 10; i--) {
+            Due.is("18 undone", x.undo(true), i % 3);
+            Due.is("18 as it was", x.of(i % 3, 2) * 5 + x.cube(i % 3, 0, 0, 0), was[i]);
+        }
+        Due.is("18 no more", x.undo(true), NO);
+    }
+
     private static void maps() {
         NeedNotJoin x = new NeedNotJoin();
         Due.text(x, 0, "order 2 2; field 1 1;");
@@ -649,7 +686,12 @@ public final class PromisesTest {
         Due.is("14 two alike", x.fano(0, 0, 1, 4, 4), NO);
         Due.is("14 two alike", x.fano(0, 4, 1, 0, 4), NO);
         Due.is("14 no point", x.fano(0, 0, 1, 4, 21), NO);
-        Due.is("14 no point", x.fano(0, -1, 1, 4, 5), NO);
+        for (int bad : new int[] {-1, 21, Integer.MIN_VALUE, Integer.MAX_VALUE}) {
+            Due.is("14 no point", x.fano(0, bad, 1, 4, 5), NO);
+            Due.is("14 no point", x.fano(0, 0, bad, 4, 5), NO);
+            Due.is("14 no point", x.fano(0, 0, 1, bad, 5), NO);
+            Due.is("14 no point", x.fano(0, 0, 1, 4, bad), NO);
+        }
         Due.is("14 world", x.fano(6, 0, 1, 4, 5), NO);
         Due.is("14 does not divide", x.fano(2, 0, 1, 2, 3), NO);
     }
@@ -667,6 +709,10 @@ public final class PromisesTest {
         Due.text(x, 1, "order 2 2; at 0 0 1 0; at 1 1 1 0;");
         Due.text(x, 2, "order 2 2; at 0 0 1 0; at 1 1 0 1;");
         Due.is("15", x.parted(1, 2), rank(x, 1, 2));
+        Due.text(x, 4, "order 3 3; field 2 1 0;");
+        Due.text(x, 5, "order 3 3; field 2 1 0; twist 2 1 2;");
+        Due.is("15 both divide, so ranks are alike", x.of(4, 3) + x.of(5, 3), 2);
+        Due.is("15 triples", x.parted(4, 5), 3);
         Due.is("15 p, n", x.parted(0, 4), NO - 1);
         Due.is("15 world", x.parted(0, 6), NO - 1);
         Due.is("15 world", x.parted(-1, 0), NO - 1);

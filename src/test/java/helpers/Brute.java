@@ -1,5 +1,7 @@
+import java.util.ArrayList;
 import java.util.Arrays;
 import java.util.HashSet;
+import java.util.List;
 import java.util.Set;
 
 /** A world as the document's terms tell it, each answer by trying all elements: no algebra of its own. */
@@ -350,6 +352,55 @@ final class Brute {
             }
         }
         return log(count);
+    }
+
+    /** Unknowns less the rank of what single unknowns do: for worlds with too many triples to try. */
+    int triplesByRank() {
+        List<int[]> rows = new ArrayList<>();
+        int rank = 0;
+        for (int unknown = 0; unknown < 3 * n * n; unknown++) {
+            int[] row = effect(unknown / (n * n), unknown / n % n, unknown % n);
+            for (int[] other : rows) {
+                int lead = 0;
+                while (other[lead] == 0) {
+                    lead++;
+                }
+                while (row[lead] != 0) {
+                    for (int at = 0; at < row.length; at++) {
+                        row[at] = (row[at] + other[at]) % p;
+                    }
+                }
+            }
+            if (Arrays.stream(row).anyMatch(d -> d != 0)) {
+                rows.add(row);
+                rank++;
+            }
+        }
+        return 3 * n * n - rank;
+    }
+
+    /** D(x) y + x E(y) less G(x y), where one of the three sends base element i to base element m, others to 0. */
+    private int[] effect(int which, int i, int m) {
+        int[] bases = new int[n];
+        bases[i] = base(m);
+        int[] map = linear(bases);
+        int[] row = new int[n * n * n];
+        for (int at = 0; at < row.length; at++) {
+            int x = base(at / n / n);
+            int y = base(at / n % n);
+            int value = which == 0 ? this.m[map[x]][y] : which == 1 ? this.m[x][map[y]] : map[this.m[x][y]];
+            row[at] = (which == 2 ? p - digit(value, at % n) : digit(value, at % n)) % p;
+        }
+        return row;
+    }
+
+    int parted(Brute to) {
+        for (int side = 0; side < 3; side++) {
+            if (!Arrays.equals(ranks(side), to.ranks(side))) {
+                return side;
+            }
+        }
+        return triplesByRank() != to.triplesByRank() ? 3 : -1;
     }
 
     int same(Brute to) {
