@@ -31,7 +31,10 @@ public final class Promises1To9Test {
         cubeNone();
         ofFirstWhats();
         ofNoneOfEach();
+        ofCommutesAndJoins();
+        ofNucleiAndCentre();
         ofPlanarForTwo();
+        ofCounts();
         ofNoneLess1();
         productNone();
         Due.end();
@@ -138,6 +141,18 @@ public final class Promises1To9Test {
         Due.is("none", x.end(0), true);
         Due.is("none again", x.end(0), true);
         Due.is("none, so a world as at first", x.text(0), 2);
+        Due.feedTwenty(x, "orders              ", 0);
+        x.end(5);
+        x.text(0);
+        Due.is("a cut word ends there: at its end", x.fault(1), 5);
+        Due.feedTwenty(x, "order 2 25          ", 0);
+        x.end(9);
+        x.text(0);
+        Due.is("a cut number ends there: not 25", x.fault(0), 1);
+        Due.is("a cut number ends there: at its end", x.fault(1), 9);
+        Due.feedTwenty(x, "order 3 2; #        ", 0);
+        x.end(11);
+        Due.is("cut blanks end there", x.text(0), 9);
     }
 
     private static void hasNotSoMany() {
@@ -359,11 +374,32 @@ public final class Promises1To9Test {
         Due.is("a couple fails", x.of(1, 4), 4 + 2);
         Due.is("a unit", x.of(0, 5), 1);
         Due.is("no unit", x.of(1, 5), NO);
-        Due.is("none that do not join", x.of(0, 8), NO);
-        Due.is("they join", x.of(0, 7), 1);
-        Due.is("the first that do not join", x.of(1, 8), 0);
-        Due.is("they do not join", x.of(1, 7), 0);
-        Due.is("they do not commute", x.of(1, 6), 0);
+    }
+
+    private static void ofCommutesAndJoins() {
+        Due.sentence("Promise 8", "6 1 if it COMMUTES, 7 1 if it JOINS, 8 the first that fail (NONE)");
+        int[][] due = {{1, 1, NO}, {0, 0, 0}, {0, 1, NO}, {1, 0, 1}, {0, 0, 124}};
+        String[] texts = {FIELD_OF_4, "order 2 2;at 0 0 0 1;at 1 0 1 0;", "order 2 2;at 0 0 1 0;at 0 1 0 1;",
+            "order 2 2;at 0 0 0 1;at 1 1 1 0;", "order 2 5;at 4 4 1 0 0 0 0;at 0 4 0 1 0 0 0;"};
+        for (int i = 0; i < texts.length; i++) {
+            NeedNotJoin x = Due.told(texts[i]);
+            for (int what = 6; what < 9; what++) {
+                Due.is("what " + what + " of " + texts[i], x.of(0, what), due[i][what - 6]);
+            }
+        }
+    }
+
+    private static void ofNucleiAndCentre() {
+        Due.sentence("Promise 8", "9, 10, 11 the left, middle, right NUCLEUS, 12 the CENTRE");
+        int[][] due = {{4, 8, 16, 2}, {1, 1, 1, 1}, {4, 4, 4, 1}, {4, 4, 4, 4}};
+        String[] texts = {"order 2 5;at 0 3 0 0 0 0 1;at 1 1 0 1 0 0 0;at 2 1 0 1 0 0 0;at 2 3 0 0 0 0 1;at 3 1 0 0 0 1 0;",
+            "order 2 2;at 0 0 0 1;at 0 1 1 0;at 1 0 1 0;", "order 2 2;at 0 0 1 0;at 0 1 0 1;", FIELD_OF_4};
+        for (int i = 0; i < texts.length; i++) {
+            NeedNotJoin x = Due.told(texts[i]);
+            for (int what = 9; what < 13; what++) {
+                Due.is("what " + what + " of " + texts[i], x.of(0, what), due[i][what - 9]);
+            }
+        }
     }
 
     private static void ofPlanarForTwo() {
@@ -373,6 +409,20 @@ public final class Promises1To9Test {
         Due.is("p 3", Due.told("order 3 1;field 0;").of(0, 14), 1);
         Due.is("p 5", Due.told("order 5 1;field 0;").of(0, 14), 1);
         Due.is("p 5, noughts", Due.told("order 5 1;").of(0, 14), 0);
+    }
+
+    private static void ofCounts() {
+        Due.sentence("Promise 8", "15 SQUARES, 16 DERIVATIONS, 17 TRIPLES");
+        int[][] due = {{1, 1, 25, 75}, {2, 2, 0, 2}, {32, 32, 0, 10}, {2, 122, 0, 10}};
+        String[] texts = {"order 3 5;", "order 2 1;at 0 0 1;", "order 2 5;at 0 0 1 0 0 0 0;at 1 1 0 1 0 0 0;"
+            + "at 2 2 0 0 1 0 0;at 3 3 0 0 0 1 0;at 4 4 0 0 0 0 1;", "order 3 5;field 2 1 0 0 0;"};
+        int[] whats = {13, 15, 16, 17};
+        for (int i = 0; i < texts.length; i++) {
+            NeedNotJoin x = Due.told(texts[i]);
+            for (int at = 0; at < 4; at++) {
+                Due.is("what " + whats[at] + " of " + texts[i], x.of(0, whats[at]), due[i][at]);
+            }
+        }
     }
 
     private static void ofNoneLess1() {

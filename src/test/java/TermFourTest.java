@@ -16,9 +16,11 @@ public final class TermFourTest {
         sumsGoToSums();
         likePAndN();
         allThreeOneToOne();
+        forAll();
         firstThatFail();
         aheadOfThat();
         firstMapNotOneToOne();
+        partedLikePAndN();
         partedByEach();
         partedByTheFirst();
         samenessOrder();
@@ -30,6 +32,9 @@ public final class TermFourTest {
         planeDivides();
         pointsAndLines();
         incidence();
+        linesOfOneX();
+        farPoints();
+        lastPoint();
         joinsOfUnlike();
         meetsOfUnlike();
         noThreeOnOneLine();
@@ -120,6 +125,23 @@ public final class TermFourTest {
         return x.carry(0, 0);
     }
 
+    /** In the field of four 2 times 3 is 1, so F by 2, G by 3 and H by 1 carry; by 2 and 2 they would need 3. */
+    private static void forAll() {
+        Due.sentence("Term 4", "and F(x) G(y) (by b) = H(x y) (by a) for all");
+        int[][] by = {{2, 3, 1}, {3, 2, 1}, {2, 2, 3}, {2, 1, 2}, {1, 3, 3}};
+        for (int[] three : by) {
+            for (int off = 0; off < 4; off++) {
+                NeedNotJoin x = Due.told(FIELD_OF_4);
+                for (int m = 0; m < 3; m++) {
+                    int factor = m == off ? BY_4[three[m]][2] : three[m];
+                    x.map(m, 0, factor);
+                    x.map(m, 1, BY_4[factor][2]);
+                }
+                Due.is("by " + three[0] + " and " + three[1], x.carry(0, 0), off == 3 ? NO : 0);
+            }
+        }
+    }
+
     private static void firstThatFail() {
         Due.sentence("Term 4", "else the first BASE ELEMENTS x, y that fail (5 i + j)");
         Due.is("the first", two("order 3 5;", "order 3 5;at 0 0 1 0 0 0 0;").carry(0, 1), 0);
@@ -148,6 +170,15 @@ public final class TermFourTest {
         Due.is("the last two", x.carry(0, 0), 101);
         x.map(0, 1, 1);
         Due.is("all three", x.carry(0, 0), 100);
+    }
+
+    private static void partedLikePAndN() {
+        Due.sentence("Term 4", "PARTED are two WORLDS (like p, n)");
+        NeedNotJoin x = two("order 2 2;", "order 3 2;");
+        Due.text(x, 2, "order 2 3;");
+        Due.is("unlike p", x.parted(0, 1), NO - 1);
+        Due.is("unlike n", x.parted(2, 0), NO - 1);
+        Due.is("alike", x.parted(2, 2), NO);
     }
 
     private static void partedByEach() {
@@ -297,6 +328,35 @@ public final class TermFourTest {
         }
     }
 
+    private static void linesOfOneX() {
+        Due.sentence("Term 4", "on q q + c, if x = c");
+        NeedNotJoin x = Due.told(FIELD_OF_4);
+        for (int point = 0; point < 16; point++) {
+            for (int c = 0; c < 4; c++) {
+                Due.is(point + " on x = " + c, x.plane(0, point, 16 + c, 2), point / 4 == c ? 1 : 0);
+            }
+            Due.is(point + " on the last line", x.plane(0, point, 20, 2), 0);
+        }
+    }
+
+    private static void farPoints() {
+        Due.sentence("Term 4", "q q + m is on all LINES (m, b) and on the last one");
+        NeedNotJoin x = Due.told(FIELD_OF_4);
+        for (int m = 0; m < 4; m++) {
+            for (int line = 0; line < 21; line++) {
+                Due.is("slope " + m + " on " + line, x.plane(0, 16 + m, line, 2), line / 4 == m || line == 20 ? 1 : 0);
+            }
+        }
+    }
+
+    private static void lastPoint() {
+        Due.sentence("Term 4", "the last POINT is on all q q + c and on the last LINE");
+        NeedNotJoin x = Due.told(FIELD_OF_4);
+        for (int line = 0; line < 21; line++) {
+            Due.is("on " + line, x.plane(0, 20, line, 2), line >= 16 ? 1 : 0);
+        }
+    }
+
     private static void joinsOfUnlike() {
         Due.sentence("Term 4", "JOIN of two unlike POINTS");
         NeedNotJoin x = Due.told(FIELD_OF_4);
@@ -307,6 +367,14 @@ public final class TermFourTest {
                     due = isOnBy4(u, line) && isOnBy4(v, line) ? line : due;
                 }
                 Due.is("join of " + u + " and " + v, x.plane(0, u, v, 0), due);
+            }
+        }
+        NeedNotJoin y = Due.told("order 3 2;field 1 1;twist 3 1 0;");
+        for (int u = 0; u < 81; u += 7) {
+            for (int v = 90; v > u; v -= 11) {
+                int line = y.plane(0, u, v, 0);
+                Due.is(u + " is on it", y.plane(0, u, line, 2), 1);
+                Due.is(v + " is on it", y.plane(0, v, line, 2), 1);
             }
         }
     }
@@ -321,6 +389,14 @@ public final class TermFourTest {
                     due = isOnBy4(point, u) && isOnBy4(point, v) ? point : due;
                 }
                 Due.is("meet of " + u + " and " + v, x.plane(0, u, v, 1), due);
+            }
+        }
+        NeedNotJoin y = Due.told("order 3 2;field 1 1;twist 3 1 0;");
+        for (int u = 0; u < 81; u += 7) {
+            for (int v = 90; v > u; v -= 11) {
+                int point = y.plane(0, u, v, 1);
+                Due.is("it is on " + u, y.plane(0, point, u, 2), 1);
+                Due.is("it is on " + v, y.plane(0, point, v, 2), 1);
             }
         }
     }

@@ -153,8 +153,14 @@ public final class TermThreeTest {
     private static void nuclei() {
         Due.sentence("Term 3", "NUCLEI: how many ELEMENTS a with (a x) y = a (x y) (left)");
         String[] texts = {"order 2 2;at 0 0 0 1;at 0 1 1 0;at 1 0 1 0;", "order 2 2;at 0 0 0 1;at 0 1 1 0;",
-            "order 2 2;at 0 1 1 0;at 1 0 1 0;", "order 2 2;at 0 0 0 1;at 1 0 1 0;", "order 3 5;", FIELD_OF_243};
-        int[][] due = {{1, 1, 1}, {2, 1, 1}, {1, 2, 1}, {1, 1, 2}, {243, 243, 243}, {243, 243, 243}};
+            "order 2 2;at 0 1 1 0;at 1 0 1 0;", "order 2 2;at 0 0 0 1;at 1 0 1 0;", "order 3 5;", FIELD_OF_243,
+            "order 2 3;at 0 2 0 1 0;at 1 2 0 0 1;at 2 2 1 0 0;", "order 2 3;at 1 0 1 0 0;at 1 1 0 1 0;at 2 2 0 1 0;",
+            "order 2 3;at 0 0 1 0 0;at 0 1 0 0 1;at 1 0 0 1 0;at 2 0 0 1 0;",
+            "order 2 5;at 0 3 0 0 0 0 1;at 1 1 0 1 0 0 0;at 2 1 0 1 0 0 0;at 2 3 0 0 0 0 1;at 3 1 0 0 0 1 0;",
+            "order 2 5;at 3 1 0 0 1 0 0;at 3 2 0 1 0 0 0;at 3 3 0 0 0 1 0;at 3 4 0 0 0 1 0;",
+            "order 2 5;at 4 4 1 0 0 0 0;at 0 4 0 1 0 0 0;"};
+        int[][] due = {{1, 1, 1}, {2, 1, 1}, {1, 2, 1}, {1, 1, 2}, {243, 243, 243}, {243, 243, 243}, {1, 2, 4},
+            {2, 4, 1}, {4, 1, 2}, {4, 8, 16}, {16, 8, 4}, {16, 16, 16}};
         for (int i = 0; i < texts.length; i++) {
             NeedNotJoin x = Due.told(texts[i]);
             for (int side = 0; side < 3; side++) {
@@ -171,6 +177,10 @@ public final class TermThreeTest {
         Due.is("matrices: all in the nuclei", of(MATRICES, 9), 16);
         Due.is("a left unit: 0 alone", of(LEFT_UNIT, 12), 1);
         Due.is("all join there", of(LEFT_UNIT, 9), 4);
+        Due.is("t for a left unit: 0 alone", of("order 2 2;at 1 1 0 1;at 1 0 1 0;", 12), 1);
+        Due.is("the nuclei's 2 does not commute", of("order 2 2;at 0 1 1 0;", 12), 1);
+        Due.is("of size 5, 2", of("order 2 5;at 3 1 0 0 1 0 0;at 3 2 0 1 0 0 0;at 3 3 0 0 0 1 0;at 3 4 0 0 0 1 0;", 12), 2);
+        Due.is("of size 5, 8", of("order 2 5;at 4 4 1 0 0 0 0;at 0 4 0 1 0 0 0;", 12), 8);
         Due.is("all commute, 0 alone joins", of("order 2 2;at 0 0 0 1;at 0 1 1 0;at 1 0 1 0;", 12), 1);
     }
 

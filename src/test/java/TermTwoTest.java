@@ -119,6 +119,10 @@ public final class TermTwoTest {
         Due.is("t to the 8 is t t", x.product(0, 16, 16), 4);
         NeedNotJoin y = Due.told("order 3 5;field 2 1 0 0 0;");
         Due.is("t to the 8 is 2 t3 and t4", y.product(0, 81, 81), 2 * 27 + 81);
+        Due.is("t to the 6 of 16", Due.told("order 2 4;field 1 1 0 0;").product(0, 8, 8), 4 + 8);
+        NeedNotJoin u = Due.told("order 5 3;field 1 2 3;");
+        Due.is("t to the 3", u.product(0, 5, 25), 1 + 2 * 5 + 3 * 25);
+        Due.is("t to the 4", u.product(0, 25, 25), 3 + 2 * 5 + 25);
         for (int c = 0; c < 5; c++) {
             NeedNotJoin z = Due.told("order 5 1;field " + c + ";");
             Due.is("of one digit, all c 0 alike", z.product(0, 4, 4), 1);
@@ -287,6 +291,13 @@ public final class TermTwoTest {
         Due.fault(x, "order 2 2;field 1 1;twists 0 0 0;", 1, 20);
         Due.fault(x, "order 2 2;turn 0;z", 1, 17);
         Due.fault(x, "or der 2 2;", 1, 0);
+        for (String none : new String[] {"xrder", "ordez", "orderz", "ordera", "aorder", "zorder", "Order", "orderA", "orderZ"}) {
+            Due.fault(x, none + " 2 2;", 1, 0);
+        }
+        for (String none : new String[] {"yield 1 1", "fielz 1 1", "bt 0 0 1 1", "au 0 0 1 1", "burn 0", "turm 0"}) {
+            Due.fault(x, "order 2 2;" + none + ";", 1, 10);
+        }
+        Due.fault(x, "order 2 2;field 1 1;swist 0 0 0;", 1, 20);
     }
 
     private static void numbers() {
