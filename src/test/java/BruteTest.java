@@ -6,6 +6,11 @@ public final class BruteTest {
     private static final int NO = NeedNotJoin.NONE;
     private static final Random RANDOM = new Random(7);
 
+    /** It divides, with the unit 1, and neither commutes nor joins. */
+    private static final String NO_FIELD = "order 2 4;at 0 0 1 0 0 0;at 0 1 0 1 0 0;at 0 2 0 0 1 0;at 0 3 0 0 0 1;"
+        + "at 1 0 0 1 0 0;at 1 1 1 0 1 1;at 1 2 1 0 0 1;at 1 3 1 1 0 0;at 2 0 0 0 1 0;at 2 1 0 1 1 1;at 2 2 0 1 0 0;"
+        + "at 2 3 1 0 0 1;at 3 0 0 0 0 1;at 3 1 0 1 0 1;at 3 2 1 0 0 0;at 3 3 1 1 1 1;";
+
     private BruteTest() {
     }
 
@@ -38,7 +43,8 @@ public final class BruteTest {
             {"order 3 3; field 2 1 0;", "; twist 2 1 1;", "; twist 2 1 2;", "; twist 5 2 2; turn 4;"},
             {"order 3 2; field 1 1;", "; twist 3 1 1;", "; twist 3 1 0;", "; twist 7 1 1; turn 2;"},
             {"order 5 2; field 2 2;", "; twist 5 1 1;", "; twist 6 1 0;", "; twist 8 1 1; turn 3;"},
-            {"order 2 3; field 1 1 0;", "; turn 2;", "; turn 4;", "; turn 5;"}};
+            {"order 2 3; field 1 1 0;", "; turn 2;", "; turn 4;", "; turn 5;"},
+            {NO_FIELD, "; turn 1;", "; turn 2;", "; turn 5;"}};
         for (String[] of : texts) {
             for (int i = 0; i < of.length; i++) {
                 for (int j = 0; j < of.length; j++) {

@@ -4,6 +4,10 @@ public final class TermFourTest {
     private static final String ONE_OF_TWO = "order 2 1;at 0 0 1;";
     private static final String FIELD_OF_4 = "order 2 2;field 1 1;";
     private static final String FIELD_OF_16 = "order 2 4;field 1 1 0 0;";
+    /** It divides, with the unit 1, and neither commutes nor joins: no field. */
+    private static final String NO_FIELD = "order 2 4;at 0 0 1 0 0 0;at 0 1 0 1 0 0;at 0 2 0 0 1 0;at 0 3 0 0 0 1;"
+        + "at 1 0 0 1 0 0;at 1 1 1 0 1 1;at 1 2 1 0 0 1;at 1 3 1 1 0 0;at 2 0 0 0 1 0;at 2 1 0 1 1 1;at 2 2 0 1 0 0;"
+        + "at 2 3 1 0 0 1;at 3 0 0 0 0 1;at 3 1 0 1 0 1;at 3 2 1 0 0 0;at 3 3 1 1 1 1;";
     /** Products of the elements 0 to 3 of the field of four; their sums are those of bits. */
     private static final int[][] BY_4 = {{0, 0, 0, 0}, {0, 1, 2, 3}, {0, 2, 3, 1}, {0, 3, 1, 2}};
 
@@ -29,6 +33,7 @@ public final class TermFourTest {
         isotopesOrder();
         isotopesDivide();
         isotopesUnit();
+        isotopesCounts();
         planeDivides();
         pointsAndLines();
         incidence();
@@ -235,6 +240,19 @@ public final class TermFourTest {
         Due.is("both roots", Due.told(FIELD_OF_4).same(0, 0), 2);
         NeedNotJoin x = two("order 3 2;field 1 1;", "order 3 2;field 2 0;");
         Due.is("from the one field of nine to the other", x.same(0, 1), 2);
+        Due.is("of no field", Due.told(NO_FIELD).same(0, 0), 3);
+        for (int a = 0; a < 64; a++) {
+            NeedNotJoin y = two("order 2 2;", "order 2 2;");
+            y.digit(0, a / 8 / 4, a / 8 / 2 % 2, a / 8 % 2, 1);
+            y.digit(1, a % 8 / 4, a / 2 % 2, a % 2, 1);
+            Due.is("one digit each, " + a, y.same(0, 1), oneDigit(a / 8).same(oneDigit(a % 8)));
+        }
+    }
+
+    private static Brute oneDigit(int at) {
+        int[][][] cube = new int[2][2][2];
+        cube[at / 4][at / 2 % 2][at % 2] = 1;
+        return new Brute(2, 2, cube);
     }
 
     private static void isotopesOrder() {
@@ -268,6 +286,18 @@ public final class TermFourTest {
         Due.is("a with no unit", x.isotopes(2, 0), NO);
         Due.is("b with another unit", x.isotopes(0, 1), 128);
         Due.is("b with no unit", x.isotopes(0, 2), 128);
+    }
+
+    private static void isotopesCounts() {
+        Due.sentence("Term 4", "how many triples (F, G, H) carry a to b");
+        NeedNotJoin x = two(FIELD_OF_16, NO_FIELD);
+        Due.is("a field", x.isotopes(0, 0), 900);
+        Due.is("no field", x.isotopes(1, 1), 18);
+        Due.is("none from a field to none", x.isotopes(0, 1), 0);
+        Due.is("none from none to a field", x.isotopes(1, 0), 0);
+        x.turn(1, 2, 2);
+        Due.is("turned, without a unit", x.of(2, 5), NO);
+        Due.is("to the turned one", x.isotopes(1, 2), 18);
     }
 
     private static void planeDivides() {
@@ -433,6 +463,11 @@ public final class TermFourTest {
         Due.is("p 3", Due.told("order 3 1;field 0;").fano(0, 0, 1, 3, 4), 0);
         Due.is("p 5, far out", Due.told("order 5 1;field 0;").fano(0, 0, 6, 25, 30), 0);
         Due.is("p 3, far out", Due.told("order 3 1;field 0;").fano(0, 0, 4, 9, 12), 0);
+        NeedNotJoin x = Due.told(NO_FIELD);
+        Due.is("no field: not on one line", x.fano(0, 5, 194, 90, 46), 0);
+        Due.is("no field: on one line", x.fano(0, 17, 23, 154, 144), 1);
+        Due.is("no field: on one line, far out", x.fano(0, 64, 261, 262, 131), 1);
+        Due.is("no field: not on one line, far out", x.fano(0, 42, 267, 138, 136), 0);
     }
 
     private static void planarOdd() {

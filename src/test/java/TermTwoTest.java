@@ -53,7 +53,7 @@ public final class TermTwoTest {
     }
 
     private static void orderFirstOfAll() {
-        Due.sentence("Term 2", "first of all and just once");
+        Due.sentence("Term 2", "first of all");
         NeedNotJoin x = new NeedNotJoin();
         Due.is("order alone", Due.text(x, 0, "order 3 2;"), 9);
         Due.fault(x, "field 1;order 2 1;", 1, 0);
@@ -64,7 +64,7 @@ public final class TermTwoTest {
     }
 
     private static void orderJustOnce() {
-        Due.sentence("Term 2", "first of all and just once");
+        Due.sentence("Term 2", "and just once");
         NeedNotJoin x = new NeedNotJoin();
         Due.fault(x, "order 2 2;order 2 2;", 1, 10);
         Due.fault(x, "order 2 2;turn 0;\norder 3 2;", 1, 18);
