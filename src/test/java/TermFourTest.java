@@ -241,6 +241,9 @@ public final class TermFourTest {
         NeedNotJoin x = two("order 3 2;field 1 1;", "order 3 2;field 2 0;");
         Due.is("from the one field of nine to the other", x.same(0, 1), 2);
         Due.is("of no field", Due.told(NO_FIELD).same(0, 0), 3);
+        NeedNotJoin z = two(FIELD_OF_4, "order 2 2;");
+        Due.is("isotopes", z.isotopes(0, 0), 18);
+        Due.is("behind isotopes: noughts", z.same(1, 1), 3 * 2);
         for (int a = 0; a < 64; a++) {
             NeedNotJoin y = two("order 2 2;", "order 2 2;");
             y.digit(0, a / 8 / 4, a / 8 / 2 % 2, a / 8 % 2, 1);
